@@ -26,7 +26,7 @@ public final class PermitRules {
     /** Euclid's way needs fewer than 93 steps for numbers of 64 bits. */
     private static final int MOST_DIVISIONS = 128;
 
-    // Kinds of words; a sign of one character is its own kind, and characters are 32 or more.
+    // Kinds of words; any other character is a kind of its own, and characters are 32 or more.
     private static final int END = 0;
     private static final int BAD = 1;
     private static final int NUMBER = 2;
@@ -56,7 +56,7 @@ public final class PermitRules {
     private final Text text = new Text();
     private final Reader reader = new Reader();
     private final Facts facts = new Facts();
-    private final Judge judge = new Judge(facts);
+    private final Judge judge = new Judge();
     private final long[] answers = new long[MOST_RULES * ANSWERS];
 
     private Book book = new Book();
@@ -148,7 +148,7 @@ public final class PermitRules {
         askedDay = day;
         int brokenOnes = 0;
         for (int i = 0; i < book.ruleCount; i++) {
-            judge.ask(book, i, day);
+            judge.ask(book, facts, i, day);
             keepAnswers(i);
             if (judge.state == BROKEN) {
                 brokenOnes++;
@@ -244,7 +244,7 @@ public final class PermitRules {
         }
         int own = facts.valueAt(slot);
         facts.change(slot, value);
-        judge.ask(book, ruleNumber, askedDay);
+        judge.ask(book, facts, ruleNumber, askedDay);
         facts.change(slot, own);
         return judge.state == HOLDS || judge.state == EXCEPTED;
     }
@@ -334,7 +334,7 @@ public final class PermitRules {
         }
     }
 
-    /** The words of a text, up to its end or to the first that is wrong wherever it stands. */
+    /** The words of a text, up to its end or to one that is too long or one too many. */
     private static final class Words {
         private final int[] kinds = new int[MOST_WORDS + 1];
         private final int[] places = new int[MOST_WORDS + 1];
@@ -379,11 +379,12 @@ public final class PermitRules {
             }
         }
 
+        /** Goes on if the current word is of a kind. The last place has an end or a wrong word. */
         boolean pass(int kind) {
-            if (kind() != kind) {
+            if (current < 0 || current >= MOST_WORDS || current >= kinds.length || kinds[current] != kind) {
                 return false;
             }
-            advance();
+            current++;
             return true;
         }
 
@@ -426,18 +427,8 @@ public final class PermitRules {
             if (behind - from == 2) {
                 return first == '<' ? AT_MOST : AT_LEAST;
             }
-            return isSign(first) ? first : BAD;
-        }
-
-        private static boolean isSign(int character) {
-            switch (character) {
-                case '+': case '-': case '*': case '/': case '(': case ')':
-                case '<': case '=': case '>':
-                case ':': case ';': case '!': case '@':
-                    return true;
-                default:
-                    return false;
-            }
+            // A character that is in no word fits nowhere, and so is wrong where it stands.
+            return first;
         }
 
         private static long worthOf(Text text, int from, int behind, int kind) {
@@ -731,32 +722,25 @@ public final class PermitRules {
 
     /** Reckons in fractions; once why is not 0, nothing more is reckoned. */
     private static final class Reckoner {
-        private final Facts facts;
         private final long[] uppers = new long[MOST_PENDING];
         private final long[] lowers = new long[MOST_PENDING];
         private int pending = 0;
         private int why = 0;
         private long missing = 0;
 
-        Reckoner(Facts facts) {
-            this.facts = facts;
-        }
-
         void restart() {
             why = 0;
             missing = 0;
         }
 
-        void reckonSide(Book book, int from, int behind) {
+        void reckonSide(Book book, Facts facts, int from, int behind) {
             pending = 0;
             for (int i = from; i < behind && why == 0; i++) {
                 int kind = book.kindAt(i);
                 if (kind == NUMBER) {
                     push(book.worthAt(i), 1);
                 } else if (kind == NAME) {
-                    pushFact(book.worthAt(i));
-                } else if (kind == NEGATED) {
-                    negate();
+                    pushFact(facts, book.worthAt(i));
                 } else {
                     join(kind);
                 }
@@ -809,7 +793,7 @@ public final class PermitRules {
             }
         }
 
-        private void pushFact(long name) {
+        private void pushFact(Facts facts, long name) {
             int slot = facts.find(name);
             if (slot == NONE) {
                 why = MISSING;
@@ -819,29 +803,23 @@ public final class PermitRules {
             }
         }
 
-        private void negate() {
+        /** Joins what was got last with what was got before it, or negates it: 0 less it. */
+        private void join(int kind) {
+            long a = 0;
+            long b = 1;
             long c = upper();
             long d = lower();
             pending--;
-            combine('-', 0, 1, c, d);
-        }
-
-        private void join(int sign) {
-            long c = upper();
-            long d = lower();
-            pending--;
-            long a = upper();
-            long b = lower();
-            pending--;
-            combine(sign, a, b, c, d);
-        }
-
-        private void combine(int sign, long a, long b, long c, long d) {
-            if (sign == '*') {
+            if (kind != NEGATED) {
+                a = upper();
+                b = lower();
+                pending--;
+            }
+            if (kind == '*') {
                 settle(product(a, c), product(b, d));
-            } else if (sign == '+') {
+            } else if (kind == '+') {
                 settle(sum(product(a, d), product(c, b)), product(b, d));
-            } else if (sign == '-') {
+            } else if (kind == '-' || kind == NEGATED) {
                 settle(difference(product(a, d), product(c, b)), product(b, d));
             } else if (c == 0) {
                 why = ZERO;
@@ -879,18 +857,14 @@ public final class PermitRules {
 
     /** Asks a rule on a day, and has the answers until it asks again. */
     private static final class Judge {
-        private final Reckoner reckoner;
+        private final Reckoner reckoner = new Reckoner();
         private int state = HOLDS;
         private long leftUpper = 0;
         private long leftLower = 0;
         private long rightUpper = 0;
         private long rightLower = 0;
 
-        Judge(Facts facts) {
-            reckoner = new Reckoner(facts);
-        }
-
-        void ask(Book book, int number, int day) {
+        void ask(Book book, Facts facts, int number, int day) {
             reckoner.restart();
             leftUpper = 0;
             leftLower = 0;
@@ -900,38 +874,27 @@ public final class PermitRules {
                 state = LATER;
                 return;
             }
-            int clause = book.firstClauseOf(number);
-            boolean holds = holds(book, clause, true);
+            int first = book.firstClauseOf(number);
+            int behind = book.clauseBehind(number);
+            state = holds(book, facts, first, true) ? HOLDS : BROKEN;
+            boolean more = state == BROKEN;
+            for (int i = first + 1; i < behind && more && reckoner.why == 0; i++) {
+                more = holds(book, facts, i, false);
+                state = more ? EXCEPTED : BROKEN;
+            }
             if (reckoner.why != 0) {
                 state = OPEN;
-            } else if (holds) {
-                state = HOLDS;
-            } else {
-                state = stateByExceptions(book, clause + 1, book.clauseBehind(number));
             }
-        }
-
-        private int stateByExceptions(Book book, int from, int behind) {
-            for (int i = from; i < behind; i++) {
-                boolean holds = holds(book, i, false);
-                if (reckoner.why != 0) {
-                    return OPEN;
-                }
-                if (!holds) {
-                    return BROKEN;
-                }
-            }
-            return from < behind ? EXCEPTED : BROKEN;
         }
 
         /** The sides are kept of a rule's own clause, and not of its exceptions. */
-        private boolean holds(Book book, int clause, boolean keep) {
+        private boolean holds(Book book, Facts facts, int clause, boolean keep) {
             int behindLeft = book.stepBehindLeft(clause);
-            reckoner.reckonSide(book, book.firstStepOf(clause), behindLeft);
+            reckoner.reckonSide(book, facts, book.firstStepOf(clause), behindLeft);
             long a = reckoner.upper();
             long b = reckoner.lower();
             if (reckoner.why == 0) {
-                reckoner.reckonSide(book, behindLeft, book.stepBehindRight(clause));
+                reckoner.reckonSide(book, facts, behindLeft, book.stepBehindRight(clause));
             }
             long c = reckoner.upper();
             long d = reckoner.lower();
