@@ -6,16 +6,35 @@ final class Check {
 
     private int wrong = 0;
     private int seen = 0;
+    private String sentence = "";
+    private int seenBefore = -1;
 
     static Check begin() {
         return new Check();
     }
 
+    /** What follows tests these words of the document; what came before must have looked at something. */
+    void sentence(String words) {
+        endSentence();
+        sentence = "\"" + words + "\": ";
+        seenBefore = seen;
+    }
+
+    private void endSentence() {
+        if (seen == seenBefore) {
+            tell("nothing was looked at");
+        }
+    }
+
+    private void tell(String fault) {
+        wrong++;
+        System.out.println(sentence + fault);
+    }
+
     void due(String call, long got, long want) {
         seen++;
         if (got != want) {
-            wrong++;
-            System.out.println(call + " answered " + got + ", due is " + want);
+            tell(call + " answered " + got + ", due is " + want);
         }
     }
 
@@ -25,6 +44,16 @@ final class Check {
 
     void state(String call, Call made) {
         thrown(call, made, IllegalStateException.class);
+    }
+
+    /** A text that is read on a new object, with as many rules. */
+    void right(String text, int rules) {
+        due("read of '" + text + "'", readOf(text), rules);
+    }
+
+    /** A text whose first wrong word, read on a new object, is at a place. */
+    void wrong(String text, int place) {
+        due("read of '" + text + "'", readOf(text), -1 - place);
     }
 
     private void thrown(String call, Call made, Class<? extends RuntimeException> want) {
@@ -38,11 +67,11 @@ final class Check {
             }
             got = "threw " + e;
         }
-        wrong++;
-        System.out.println(call + " " + got + ", due is " + want.getSimpleName());
+        tell(call + " " + got + ", due is " + want.getSimpleName());
     }
 
     void end() {
+        endSentence();
         System.out.println(seen + " calls looked at, " + wrong + " not as due");
         if (wrong != 0 || seen == 0) {
             System.exit(1);

@@ -14,113 +14,104 @@ public final class Promise04ReadTest {
         check.end();
     }
 
-    private static void right(Check check, String text, int want) {
-        check.due("read of '" + text + "'", Check.readOf(text), want);
-    }
-
-    /** The place at which a text is wrong. */
-    private static void wrong(Check check, String text, int place) {
-        check.due("read of '" + text + "'", Check.readOf(text), -1 - place);
-    }
-
     private static void rightTexts(Check check) {
-        right(check, "a:1<2", 1);
-        right(check, "  a  :  1  <  2  ;  ", 1);
-        right(check, "a:1<2;b:1<=2;c:1=2;d:1>=2;e:1>2", 5);
-        right(check, "a:-x<-y", 1);
-        right(check, "a:-(-x)<(-y)", 1);
-        right(check, "a:x+y-z*3/4<((2))", 1);
-        right(check, "a:1<2!3<4!5=6!7>8@9;b:1<2", 2);
-        right(check, "a:1<2@0", 1);
-        right(check, "a:1<2@999999999;", 1);
-        right(check, "a:a<a;b:a<b", 2);
-        right(check, "a:000000001<2", 1);
+        check.right("a:1<2", 1);
+        check.right("  a  :  1  <  2  ;  ", 1);
+        check.right("a:1<2;b:1<=2;c:1=2;d:1>=2;e:1>2", 5);
+        check.right("a:-x<-y", 1);
+        check.right("a:-(-x)<(-y)", 1);
+        check.right("a:x+y-z*3/4<((2))", 1);
+        check.right("a:1<2!3<4!5=6!7>8@9;b:1<2", 2);
+        check.right("a:1<2@0", 1);
+        check.right("a:1<2@999999999;", 1);
+        check.right("a:a<a;b:a<b", 2);
+        check.right("a:000000001<2", 1);
     }
 
     private static void wrongWords(Check check) {
-        wrong(check, ";", 0);
-        wrong(check, "a;", 1);
-        wrong(check, "a a:1<2", 2);
-        wrong(check, "a::1<2", 2);
-        wrong(check, "a:1<2;;", 6);
-        wrong(check, "a:1<2;1:1<2", 6);
-        wrong(check, "a:<2", 2);
-        wrong(check, "a:+1<2", 2);
-        wrong(check, "a:--1<2", 3);
-        wrong(check, "a:1--1<2", 4);
-        wrong(check, "a:1*-1<2", 4);
-        wrong(check, "a:(--1)<2", 4);
-        wrong(check, "a:1<+2", 4);
-        wrong(check, "a:1<2<3", 5);
-        wrong(check, "a:1<2=3", 5);
-        wrong(check, "a:1< =2", 5);
-        wrong(check, "a:1> =2", 5);
-        wrong(check, "a:1<==2", 5);
-        wrong(check, "a:1=>2", 4);
-        wrong(check, "a:1<>2", 4);
-        wrong(check, "a:(1<2)", 4);
-        wrong(check, "a:1)<2", 3);
-        wrong(check, "a:1<2)", 5);
-        wrong(check, "a:()<2", 3);
-        wrong(check, "a:1(2)<2", 3);
-        wrong(check, "a:2x<2", 3);
-        wrong(check, "a:x2<2", 3);
-        wrong(check, "a:1 2<2", 4);
-        wrong(check, "a:!1<2", 2);
-        wrong(check, "a:1!1<2", 3);
-        wrong(check, "a:1<2!!1<2", 6);
-        wrong(check, "a:1<2@x", 6);
-        wrong(check, "a:1<2@-1", 6);
-        wrong(check, "a:1<2@1!1<2", 7);
-        wrong(check, "a:1<2@1@2", 7);
-        wrong(check, "a:1<2@1+1", 7);
-        wrong(check, "a:1@1<2", 3);
-        wrong(check, "A:1<2", 0);
-        wrong(check, "aB:1<2", 1);
-        wrong(check, "a:1.5<2", 3);
-        wrong(check, "a:1<2#", 5);
-        wrong(check, "a:1<2~", 5);
-        wrong(check, "   ~", 3);
-        wrong(check, "a:1<2;a:1<2", 6);
-        wrong(check, "a:1<2;b:1<2; a:1<2", 13);
-        wrong(check, "a:1<2;a", 6);
+        check.wrong(";", 0);
+        check.wrong("a;", 1);
+        check.wrong("a a:1<2", 2);
+        check.wrong("a::1<2", 2);
+        check.wrong("a:1<2;;", 6);
+        check.wrong("a:1<2;1:1<2", 6);
+        check.wrong("a:<2", 2);
+        check.wrong("a:+1<2", 2);
+        check.wrong("a:--1<2", 3);
+        check.wrong("a:1--1<2", 4);
+        check.wrong("a:1*-1<2", 4);
+        check.wrong("a:(--1)<2", 4);
+        check.wrong("a:1<+2", 4);
+        check.wrong("a:1<2<3", 5);
+        check.wrong("a:1<2=3", 5);
+        check.wrong("a:1< =2", 5);
+        check.wrong("a:1> =2", 5);
+        check.wrong("a:1<==2", 5);
+        check.wrong("a:1=>2", 4);
+        check.wrong("a:1<>2", 4);
+        check.wrong("a:(1<2)", 4);
+        check.wrong("a:1)<2", 3);
+        check.wrong("a:1<2)", 5);
+        check.wrong("a:()<2", 3);
+        check.wrong("a:1(2)<2", 3);
+        check.wrong("a:2x<2", 3);
+        check.wrong("a:x2<2", 3);
+        check.wrong("a:1 2<2", 4);
+        check.wrong("a:!1<2", 2);
+        check.wrong("a:1!1<2", 3);
+        check.wrong("a:1<2!!1<2", 6);
+        check.wrong("a:1<2@x", 6);
+        check.wrong("a:1<2@-1", 6);
+        check.wrong("a:1<2@1!1<2", 7);
+        check.wrong("a:1<2@1@2", 7);
+        check.wrong("a:1<2@1+1", 7);
+        check.wrong("a:1@1<2", 3);
+        check.wrong("A:1<2", 0);
+        check.wrong("aB:1<2", 1);
+        check.wrong("a:1.5<2", 3);
+        check.wrong("a:1<2#", 5);
+        check.wrong("a:1<2~", 5);
+        check.wrong("   ~", 3);
+        check.wrong("a:1<2;a:1<2", 6);
+        check.wrong("a:1<2;b:1<2; a:1<2", 13);
+        check.wrong("a:1<2;a", 6);
         // the first wrong word is told, and not one that stands behind it
-        wrong(check, "a:1<2 2 ~", 6);
-        wrong(check, "a:1+*2 1234567890", 4);
-        wrong(check, "a:1234567890 ~", 2);
+        check.wrong("a:1<2 2 ~", 6);
+        check.wrong("a:1+*2 1234567890", 4);
+        check.wrong("a:1234567890 ~", 2);
     }
 
     private static void textsThatEndTooSoon(Check check) {
         String whole = "ab : -(x+3)*4 <= 5/y ! 1 = 2 ! z > 3 @ 77";
-        wrong(check, "", 0);
-        wrong(check, "   ", 3);
+        check.wrong("", 0);
+        check.wrong("   ", 3);
         for (int length = 0; length <= whole.length(); length++) {
             String text = whole.substring(0, length);
             boolean ends = text.matches(".*<= 5\\s*|.*5/y\\s*|.*= 2\\s*|.*> 3\\s*|.*@ 7+");
             if (ends) {
-                right(check, text, 1);
+                check.right(text, 1);
             } else {
-                wrong(check, text, length);
+                check.wrong(text, length);
             }
         }
-        wrong(check, "a:1<  ", 6);
-        wrong(check, "a:(1  ", 6);
-        wrong(check, "a:1<2@ ", 7);
-        right(check, "a:1<2;   ", 1);
+        check.wrong("a:1<  ", 6);
+        check.wrong("a:(1  ", 6);
+        check.wrong("a:1<2@ ", 7);
+        check.right("a:1<2;   ", 1);
     }
 
     private static void wordLimits(Check check) {
-        right(check, "a:123456789<2", 1);
-        wrong(check, "a:1234567890<2", 2);
-        wrong(check, "a:0000000001<2", 2);
-        right(check, "abcdefgh:1<2", 1);
-        wrong(check, "abcdefghi:1<2", 0);
-        right(check, "a:abcdefgh<2", 1);
-        wrong(check, "a:1<abcdefghi", 4);
-        right(check, "a:1<2@123456789", 1);
-        wrong(check, "a:1<2@1234567890", 6);
-        wrong(check, "a:1<" + Check.repeat("9", 700), 4);
-        wrong(check, Check.repeat("z", 800), 0);
+        check.right("a:123456789<2", 1);
+        check.wrong("a:1234567890<2", 2);
+        check.wrong("a:0000000001<2", 2);
+        check.right("abcdefgh:1<2", 1);
+        check.wrong("abcdefghi:1<2", 0);
+        check.right("a:abcdefgh<2", 1);
+        check.wrong("a:1<abcdefghi", 4);
+        check.right("a:1<2@123456789", 1);
+        check.wrong("a:1<2@1234567890", 6);
+        check.wrong("a:1<" + Check.repeat("9", 700), 4);
+        check.wrong(Check.repeat("z", 800), 0);
     }
 
     private static String rulesOf(int howMany) {
@@ -132,38 +123,38 @@ public final class Promise04ReadTest {
     }
 
     private static void ruleLimits(Check check) {
-        right(check, rulesOf(12), 12);
-        right(check, rulesOf(12) + "  ", 12);
-        wrong(check, rulesOf(13), 72);
-        wrong(check, rulesOf(12) + "m", 72);
-        wrong(check, rulesOf(12) + "a", 72);
-        wrong(check, rulesOf(12) + ";", 72);
+        check.right(rulesOf(12), 12);
+        check.right(rulesOf(12) + "  ", 12);
+        check.wrong(rulesOf(13), 72);
+        check.wrong(rulesOf(12) + "m", 72);
+        check.wrong(rulesOf(12) + "a", 72);
+        check.wrong(rulesOf(12) + ";", 72);
     }
 
     private static void depthLimits(Check check) {
-        right(check, "a:" + Check.repeat("(", 8) + "1" + Check.repeat(")", 8) + "<2", 1);
-        right(check, "a:1<" + Check.repeat("(-", 8) + "1" + Check.repeat(")", 8), 1);
-        wrong(check, "a:" + Check.repeat("(", 9) + "1" + Check.repeat(")", 9) + "<2", 10);
-        wrong(check, "a:" + Check.repeat("(", 9), 10);
-        wrong(check, "a:" + Check.repeat("(", 8), 10);
-        wrong(check, "a:" + Check.repeat("(", 8) + "1" + Check.repeat(")", 7) + "<2", 18);
-        wrong(check, "a:" + Check.repeat("(", 8) + "1" + Check.repeat(")", 9) + "<2", 19);
+        check.right("a:" + Check.repeat("(", 8) + "1" + Check.repeat(")", 8) + "<2", 1);
+        check.right("a:1<" + Check.repeat("(-", 8) + "1" + Check.repeat(")", 8), 1);
+        check.wrong("a:" + Check.repeat("(", 9) + "1" + Check.repeat(")", 9) + "<2", 10);
+        check.wrong("a:" + Check.repeat("(", 9), 10);
+        check.wrong("a:" + Check.repeat("(", 8), 10);
+        check.wrong("a:" + Check.repeat("(", 8) + "1" + Check.repeat(")", 7) + "<2", 18);
+        check.wrong("a:" + Check.repeat("(", 8) + "1" + Check.repeat(")", 9) + "<2", 19);
         // beside one another there may be more
-        right(check, "a:" + Check.repeat("(1)+", 20) + "1<2", 1);
-        right(check, "a:((((((((1))))))))+((((((((1))))))))<2", 1);
+        check.right("a:" + Check.repeat("(1)+", 20) + "1<2", 1);
+        check.right("a:((((((((1))))))))+((((((((1))))))))<2", 1);
     }
 
     private static void wordCountLimits(Check check) {
         // name, :, 1, < and 1 are five words, each +1 two more
         String even = "a:1<1" + Check.repeat("+1", 57);
-        right(check, even, 1);
-        right(check, even + ";", 1);
-        wrong(check, even + "+1", even.length() + 1);
-        wrong(check, even + ";b", even.length() + 1);
-        wrong(check, even + " ;;", even.length() + 2);
-        wrong(check, even + "+ ", even.length() + 2);
-        wrong(check, even + "+~", even.length() + 1);
-        wrong(check, even + "+ 1;", even.length() + 2);
+        check.right(even, 1);
+        check.right(even + ";", 1);
+        check.wrong(even + "+1", even.length() + 1);
+        check.wrong(even + ";b", even.length() + 1);
+        check.wrong(even + " ;;", even.length() + 2);
+        check.wrong(even + "+ ", even.length() + 2);
+        check.wrong(even + "+~", even.length() + 1);
+        check.wrong(even + "+ 1;", even.length() + 2);
         // 28 exceptions are the most there can be
         String exceptions = "a:1<1" + Check.repeat("!1<2", 28);
         PermitRules rules = Check.of(exceptions + "@1;");

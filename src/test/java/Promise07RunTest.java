@@ -1,10 +1,10 @@
 /** Promise 7: all rules are asked on a day; here is how they are reckoned too. */
 public final class Promise07RunTest {
-    private static final int HOLDS = 0;
-    private static final int BROKEN = 1;
-    private static final int EXCEPTED = 2;
-    private static final int OPEN = 3;
-    private static final int LATER = 4;
+    private static final int HOLDS = Asked.HOLDS;
+    private static final int BROKEN = Asked.BROKEN;
+    private static final int EXCEPTED = Asked.EXCEPTED;
+    private static final int OPEN = Asked.OPEN;
+    private static final int LATER = Asked.LATER;
 
     public static void main(String[] args) {
         Check check = Check.begin();
@@ -18,30 +18,6 @@ public final class Promise07RunTest {
         greatestNumbers(check);
         deepSides(check);
         check.end();
-    }
-
-    /** The state of a text's first rule on day 0, without facts. */
-    private static void state(Check check, String text, int want) {
-        PermitRules rules = Check.of(text);
-        check.due("run of '" + text + "'", rules.run(0), want == BROKEN ? 1 : 0);
-        check.due("state of '" + text + "'", rules.told(0, 0), want);
-    }
-
-    private static void open(Check check, String text, int why) {
-        PermitRules rules = Check.of(text);
-        rules.run(0);
-        check.due("state of '" + text + "'", rules.told(0, 0), OPEN);
-        check.due("why of '" + text + "'", rules.told(0, 5), why);
-    }
-
-    /** What a side is, in lowest terms. */
-    private static void side(Check check, String side, long upper, long lower) {
-        PermitRules rules = Check.of("a:" + side + "=0;b:0=" + side);
-        rules.run(0);
-        check.due("upper number of " + side, rules.told(0, 1), upper);
-        check.due("lower number of " + side, rules.told(0, 2), lower);
-        check.due("upper number of the right " + side, rules.told(1, 3), upper);
-        check.due("lower number of the right " + side, rules.told(1, 4), lower);
     }
 
     private static void brokenOnes(Check check) {
@@ -84,31 +60,31 @@ public final class Promise07RunTest {
         String[] sides = {"1/3", "1/2", "-1/2"};
         int[][] holds = {{1, 1, 0, 0, 0}, {0, 1, 1, 1, 0}, {0, 0, 0, 1, 1}};
         for (int s = 0; s < signs.length; s++) {
-            state(check, "a:1/3" + signs[s] + "1/2", holds[0][s] == 1 ? HOLDS : BROKEN);
-            state(check, "a:2/4" + signs[s] + "1/2", holds[1][s] == 1 ? HOLDS : BROKEN);
-            state(check, "a:1/2" + signs[s] + "1/3", holds[2][s] == 1 ? HOLDS : BROKEN);
-            state(check, "a:-1/2" + signs[s] + "-1/3", holds[0][s] == 1 ? HOLDS : BROKEN);
-            state(check, "a:1/(0-2)" + signs[s] + "0", holds[0][s] == 1 ? HOLDS : BROKEN);
+            Asked.state(check, "a:1/3" + signs[s] + "1/2", holds[0][s] == 1 ? HOLDS : BROKEN);
+            Asked.state(check, "a:2/4" + signs[s] + "1/2", holds[1][s] == 1 ? HOLDS : BROKEN);
+            Asked.state(check, "a:1/2" + signs[s] + "1/3", holds[2][s] == 1 ? HOLDS : BROKEN);
+            Asked.state(check, "a:-1/2" + signs[s] + "-1/3", holds[0][s] == 1 ? HOLDS : BROKEN);
+            Asked.state(check, "a:1/(0-2)" + signs[s] + "0", holds[0][s] == 1 ? HOLDS : BROKEN);
             for (String side : sides) {
-                state(check, "a:" + side + signs[s] + side, holds[1][s] == 1 ? HOLDS : BROKEN);
+                Asked.state(check, "a:" + side + signs[s] + side, holds[1][s] == 1 ? HOLDS : BROKEN);
             }
         }
     }
 
     private static void exceptions(Check check) {
-        state(check, "a:2<1", BROKEN);
-        state(check, "a:1<2!2<1", HOLDS);
-        state(check, "a:1<2!x<1", HOLDS);
-        state(check, "a:2<1!1<2", EXCEPTED);
-        state(check, "a:2<1!1<2!1<2", EXCEPTED);
-        state(check, "a:2<1!2<1!1<2", BROKEN);
-        state(check, "a:2<1!1<2!2<1", BROKEN);
-        state(check, "a:2<1!2<1!x<1", BROKEN);
-        state(check, "a:2<1!x<1!2<1", OPEN);
-        state(check, "a:2<1!1<2!x<1", OPEN);
-        state(check, "a:x<1!1<2", OPEN);
-        state(check, "a:1<x!1<2", OPEN);
-        state(check, "a:1/0<1!1<2@1", LATER);
+        Asked.state(check, "a:2<1", BROKEN);
+        Asked.state(check, "a:1<2!2<1", HOLDS);
+        Asked.state(check, "a:1<2!x<1", HOLDS);
+        Asked.state(check, "a:2<1!1<2", EXCEPTED);
+        Asked.state(check, "a:2<1!1<2!1<2", EXCEPTED);
+        Asked.state(check, "a:2<1!2<1!1<2", BROKEN);
+        Asked.state(check, "a:2<1!1<2!2<1", BROKEN);
+        Asked.state(check, "a:2<1!2<1!x<1", BROKEN);
+        Asked.state(check, "a:2<1!x<1!2<1", OPEN);
+        Asked.state(check, "a:2<1!1<2!x<1", OPEN);
+        Asked.state(check, "a:x<1!1<2", OPEN);
+        Asked.state(check, "a:1<x!1<2", OPEN);
+        Asked.state(check, "a:1/0<1!1<2@1", LATER);
         PermitRules rules = Check.of("a:3/6<1/4!5<6!7=x/y;b:2<1!3<4");
         rules.fact('x', 14);
         rules.fact('y', 2);
@@ -123,74 +99,74 @@ public final class Promise07RunTest {
     }
 
     private static void fractions(Check check) {
-        side(check, "0", 0, 1);
-        side(check, "7", 7, 1);
-        side(check, "-7", -7, 1);
-        side(check, "6/4", 3, 2);
-        side(check, "-6/4", -3, 2);
-        side(check, "6/(0-4)", -3, 2);
-        side(check, "(0-6)/(0-4)", 3, 2);
-        side(check, "0/(0-4)", 0, 1);
-        side(check, "1/2+1/3", 5, 6);
-        side(check, "1/2-1/3", 1, 6);
-        side(check, "1/3-1/2", -1, 6);
-        side(check, "1/6+1/3", 1, 2);
-        side(check, "1/2-1/2", 0, 1);
-        side(check, "2/3*3/4", 1, 2);
-        side(check, "(2/3)/(4/9)", 3, 2);
-        side(check, "2/3/4", 1, 6);
-        side(check, "24/2*3", 36, 1);
-        side(check, "24/(2*3)", 4, 1);
-        side(check, "10-3-2", 5, 1);
-        side(check, "10-(3-2)", 9, 1);
-        side(check, "1+2*3", 7, 1);
-        side(check, "(1+2)*3", 9, 1);
-        side(check, "-2*3+10", 4, 1);
-        side(check, "-2+3", 1, 1);
-        side(check, "-(2+3)", -5, 1);
-        side(check, "2*(-3)", -6, 1);
-        side(check, "-(-(-(-5)))", 5, 1);
-        side(check, "999999999*999999999", 999999998000000001L, 1);
+        Asked.side(check, "0", 0, 1);
+        Asked.side(check, "7", 7, 1);
+        Asked.side(check, "-7", -7, 1);
+        Asked.side(check, "6/4", 3, 2);
+        Asked.side(check, "-6/4", -3, 2);
+        Asked.side(check, "6/(0-4)", -3, 2);
+        Asked.side(check, "(0-6)/(0-4)", 3, 2);
+        Asked.side(check, "0/(0-4)", 0, 1);
+        Asked.side(check, "1/2+1/3", 5, 6);
+        Asked.side(check, "1/2-1/3", 1, 6);
+        Asked.side(check, "1/3-1/2", -1, 6);
+        Asked.side(check, "1/6+1/3", 1, 2);
+        Asked.side(check, "1/2-1/2", 0, 1);
+        Asked.side(check, "2/3*3/4", 1, 2);
+        Asked.side(check, "(2/3)/(4/9)", 3, 2);
+        Asked.side(check, "2/3/4", 1, 6);
+        Asked.side(check, "24/2*3", 36, 1);
+        Asked.side(check, "24/(2*3)", 4, 1);
+        Asked.side(check, "10-3-2", 5, 1);
+        Asked.side(check, "10-(3-2)", 9, 1);
+        Asked.side(check, "1+2*3", 7, 1);
+        Asked.side(check, "(1+2)*3", 9, 1);
+        Asked.side(check, "-2*3+10", 4, 1);
+        Asked.side(check, "-2+3", 1, 1);
+        Asked.side(check, "-(2+3)", -5, 1);
+        Asked.side(check, "2*(-3)", -6, 1);
+        Asked.side(check, "-(-(-(-5)))", 5, 1);
+        Asked.side(check, "999999999*999999999", 999999998000000001L, 1);
         // numbers that follow one another in Fibonacci's row take the longest to see that nothing divides both
-        side(check, "701408733/433494437", 701408733, 433494437);
-        side(check, "((2880067*1000000+194370)*1000000+816120)/((1779979*1000000+416004)*1000000+714189)",
+        Asked.side(check, "701408733/433494437", 701408733, 433494437);
+        Asked.side(check, "((2880067*1000000+194370)*1000000+816120)/((1779979*1000000+416004)*1000000+714189)",
             2880067194370816120L, 1779979416004714189L);
     }
 
     private static void whyOpen(Check check) {
-        open(check, "a:x<1", 1);
-        open(check, "a:1<x", 1);
-        open(check, "a:999999999*999999999*999999999<1", 2);
-        open(check, "a:1<999999999*999999999*999999999", 2);
-        open(check, "a:1/999999999/999999999/999999999<1", 2);
-        open(check, "a:1/999999999/999999999<999999999/999999998", 2);
-        open(check, "a:1/999999999+1/999999998+1/999999997<1", 2);
-        open(check, "a:1/999999999-1/999999998-1/999999997<1", 2);
-        open(check, "a:1/0<1", 3);
-        open(check, "a:1<0/0", 3);
-        open(check, "a:1/(2-2)<1", 3);
-        open(check, "a:2<1!1/0<1", 3);
-        open(check, "a:2<1!1<999999999*999999999*999999999", 2);
+        Asked.open(check, "a:x<1", 1);
+        Asked.open(check, "a:1<x", 1);
+        Asked.open(check, "a:999999999*999999999*999999999<1", 2);
+        Asked.open(check, "a:1<999999999*999999999*999999999", 2);
+        Asked.open(check, "a:1/999999999/999999999/999999999<1", 2);
+        Asked.open(check, "a:1/999999999/999999999<999999999/999999998", 2);
+        Asked.open(check, "a:1/999999999+1/999999998+1/999999997<1", 2);
+        Asked.open(check, "a:1/999999999-1/999999998-1/999999997<1", 2);
+        Asked.open(check, "a:1/0<1", 3);
+        Asked.open(check, "a:1<0/0", 3);
+        Asked.open(check, "a:1/(2-2)<1", 3);
+        Asked.open(check, "a:2<1!1/0<1", 3);
+        Asked.open(check, "a:2<1!1<999999999*999999999*999999999", 2);
         // a zero may stand above
-        state(check, "a:0/5<1", HOLDS);
+        Asked.state(check, "a:0/5<1", HOLDS);
         // sides that are alike may still be too great to compare
         String great = "1/999999999/999999999*999999998*5";
-        open(check, "a:" + great + "=" + great, 2);
+        Asked.open(check, "a:" + great + "=" + great, 2);
     }
 
     private static void whichComesFirst(Check check) {
-        open(check, "a:1/0+x<1", 3);
-        open(check, "a:x+1/0<1", 1);
-        open(check, "a:1/0*x<1", 3);
-        open(check, "a:1/(0*x)<1", 1);
-        open(check, "a:x/0<1", 1);
-        open(check, "a:999999999*999999999*999999999/0<1", 2);
-        open(check, "a:999999999*999999999*x*999999999<1", 1);
-        open(check, "a:1/0<x", 3);
-        open(check, "a:x<1/0", 1);
-        open(check, "a:-x+1/0<1", 1);
-        open(check, "a:2<1!1/0<1!x<1", 3);
-        open(check, "a:2<1!x<1!1/0<1", 1);
+        Asked.open(check, "a:1/0+x<1", 3);
+        Asked.open(check, "a:x+1/0<1", 1);
+        Asked.open(check, "a:1/0*x<1", 3);
+        Asked.open(check, "a:1/(0*x)<1", 1);
+        Asked.open(check, "a:x/0<1", 1);
+        Asked.open(check, "a:999999999*999999999*999999999/0<1", 2);
+        Asked.open(check, "a:999999999*999999999*x*999999999<1", 1);
+        Asked.open(check, "a:1/0<x", 3);
+        Asked.open(check, "a:x<1/0", 1);
+        Asked.open(check, "a:-x+1/0<1", 1);
+        Asked.open(check, "a:2<1!1/0<1!x<1", 3);
+        Asked.open(check, "a:2<1!x<1!1/0<1", 1);
         PermitRules rules = Check.of("a:x+y<z");
         rules.run(0);
         check.due("x is missing first", rules.told(0, 6), 'x');
@@ -207,32 +183,32 @@ public final class Promise07RunTest {
         long greatest = Long.MAX_VALUE;
         // 2^30 is 1073741824, too long a number: 536870912 is 2^29
         String low = "(0-536870912)*536870912*32";
-        side(check, low, least, 1);
-        side(check, "-1-(" + low + ")", greatest, 1);
-        side(check, "(" + low + ")/(" + low + ")", 1, 1);
-        side(check, "0/(" + low + ")", 0, 1);
-        side(check, "(" + low + ")/2", least / 2, 1);
-        side(check, "(" + low + ")/(0-2)", -(least / 2), 1);
-        side(check, "2/(" + low + ")", -1, -(least / 2));
-        side(check, "(" + low + ")*1", least, 1);
-        side(check, "(" + low + ")/3", least, 3);
-        side(check, "1/(-1-(" + low + "))", 1, greatest);
-        side(check, "(0-1)/(-1-(" + low + "))", -1, greatest);
-        open(check, "a:-(" + low + ")<1", 2);
-        open(check, "a:0-(" + low + ")<1", 2);
-        open(check, "a:" + low + "-1<1", 2);
-        open(check, "a:-1+" + low + "<1", 2);
-        open(check, "a:(" + low + ")/(0-1)<1", 2);
-        open(check, "a:(" + low + ")/(0-3)<1", 2);
-        open(check, "a:1/(" + low + ")<1", 2);
-        open(check, "a:3/(" + low + ")<1", 2);
-        open(check, "a:(0-1)*(" + low + ")<1", 2);
-        open(check, "a:(" + low + ")*(0-1)<1", 2);
-        open(check, "a:-1-(" + low + ")+1<1", 2);
-        open(check, "a:536870912*536870912*32<1", 2);
-        state(check, "a:" + low + "<0-1", HOLDS);
-        open(check, "a:" + low + "<1/2", 2);
-        state(check, "a:" + low + "<-1-(" + low + ")", HOLDS);
+        Asked.side(check, low, least, 1);
+        Asked.side(check, "-1-(" + low + ")", greatest, 1);
+        Asked.side(check, "(" + low + ")/(" + low + ")", 1, 1);
+        Asked.side(check, "0/(" + low + ")", 0, 1);
+        Asked.side(check, "(" + low + ")/2", least / 2, 1);
+        Asked.side(check, "(" + low + ")/(0-2)", -(least / 2), 1);
+        Asked.side(check, "2/(" + low + ")", -1, -(least / 2));
+        Asked.side(check, "(" + low + ")*1", least, 1);
+        Asked.side(check, "(" + low + ")/3", least, 3);
+        Asked.side(check, "1/(-1-(" + low + "))", 1, greatest);
+        Asked.side(check, "(0-1)/(-1-(" + low + "))", -1, greatest);
+        Asked.open(check, "a:-(" + low + ")<1", 2);
+        Asked.open(check, "a:0-(" + low + ")<1", 2);
+        Asked.open(check, "a:" + low + "-1<1", 2);
+        Asked.open(check, "a:-1+" + low + "<1", 2);
+        Asked.open(check, "a:(" + low + ")/(0-1)<1", 2);
+        Asked.open(check, "a:(" + low + ")/(0-3)<1", 2);
+        Asked.open(check, "a:1/(" + low + ")<1", 2);
+        Asked.open(check, "a:3/(" + low + ")<1", 2);
+        Asked.open(check, "a:(0-1)*(" + low + ")<1", 2);
+        Asked.open(check, "a:(" + low + ")*(0-1)<1", 2);
+        Asked.open(check, "a:-1-(" + low + ")+1<1", 2);
+        Asked.open(check, "a:536870912*536870912*32<1", 2);
+        Asked.state(check, "a:" + low + "<0-1", HOLDS);
+        Asked.open(check, "a:" + low + "<1/2", 2);
+        Asked.state(check, "a:" + low + "<-1-(" + low + ")", HOLDS);
     }
 
     private static void deepSides(Check check) {
@@ -246,6 +222,6 @@ public final class Promise07RunTest {
         for (int i = 0; i < 8; i++) {
             want = 1 - 2 * want;
         }
-        side(check, side.toString(), want, 1);
+        Asked.side(check, side.toString(), want, 1);
     }
 }
