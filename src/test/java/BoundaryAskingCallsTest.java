@@ -339,6 +339,12 @@ public final class BoundaryAskingCallsTest {
             check.due("broken(" + k + ") of 12", all.broken(k), k);
         }
         check.due("broken(12)", all.broken(12), NONE);
+        // of rules that there were before nothing is left
+        Check.say(all, "a:2<1;b:2<1");
+        all.read();
+        all.run(0);
+        check.due("broken(1) of 2", all.broken(1), 1);
+        check.due("broken(2) of 2", all.broken(2), NONE);
         PermitRules none = Check.of("a:1<2");
         none.run(0);
         check.due("broken(0) without one", none.broken(0), NONE);
