@@ -1,10 +1,13 @@
 import java.io.IOException;
+import java.lang.reflect.Field;
+import java.lang.reflect.Method;
+import java.lang.reflect.Modifier;
 import java.nio.file.Files;
 import java.nio.file.Path;
 import java.util.regex.Matcher;
 import java.util.regex.Pattern;
 
-/** What of ../shared/LANGUAGE.md can be seen in the text of the class. */
+/** What of ../shared/LANGUAGE.md can be seen in the text of the class and in its members. */
 public final class LanguageTest {
     private static final Path SOURCE = Path.of("src", "main", "java", "PermitRules.java");
 
@@ -34,7 +37,28 @@ public final class LanguageTest {
         Matcher classes = Pattern.compile("\\bclass \\w+").matcher(code);
         check.due("11: at most twelve classes", classes.results().count() <= 12 ? 1 : 0, 1);
         check.due("11: the longest method has at most sixty lines", longestMethod(code) <= 60 ? 1 : 0, 1);
+        members(check, PermitRules.class);
+        for (Class<?> inside : PermitRules.class.getDeclaredClasses()) {
+            int modifiers = inside.getModifiers();
+            boolean fits = Modifier.isStatic(modifiers) && !Modifier.isPublic(modifiers) && !Modifier.isProtected(modifiers);
+            check.due("1: " + inside + " is static, and none sees it from without", fits ? 1 : 0, 1);
+            members(check, inside);
+        }
         check.end();
+    }
+
+    private static void members(Check check, Class<?> type) {
+        int fields = 0;
+        for (Field field : type.getDeclaredFields()) {
+            boolean constant = Modifier.isStatic(field.getModifiers());
+            fields += constant ? 0 : 1;
+            boolean fits = !constant || Modifier.isFinal(field.getModifiers()) && field.getType().isPrimitive();
+            check.due("5: " + field + " is no state that all share", fits ? 1 : 0, 1);
+        }
+        check.due("11: " + type + " has some twenty fields at most", fields <= 20 ? 1 : 0, 1);
+        for (Method method : type.getDeclaredMethods()) {
+            check.due("11: " + method + " takes seven at most", method.getParameterCount() <= 7 ? 1 : 0, 1);
+        }
     }
 
     private static int longestMethod(String code) {
